@@ -22,12 +22,12 @@ public final class DeltaRoad {
     private final World world = new World();
     private final Water water = new Water();
     private final Water trial = new Water();
-    private final Plan plan = new Plan();
     private final Tape tape = new Tape();
     private final Sheets sheets = new Sheets();
     private final Ground groundDraft = new Ground();
     private final Villages villagesDraft = new Villages();
     private World kept = null;
+    private Plan plan = null;
     private boolean waterKnown = false;
     private boolean planKnown = false;
 
@@ -472,6 +472,9 @@ public final class DeltaRoad {
     }
 
     private Plan planNow() {
+        if (plan == null) {
+            plan = new Plan();
+        }
         if (!planKnown) {
             for (int cell = 0; cell < CELLS; cell++) {
                 plan.survey(cell, costOf(cell), world.villages.servedFrom(cell));
@@ -836,12 +839,17 @@ public final class DeltaRoad {
      * of the set. Roads are weighed by one number, cost before length, so that one search settles both.
      */
     private static final class Plan {
+        // A road passes each of 49 cells at most once for each set still left: it has fewer cells than the unit of cost.
         private static final int COST_UNIT = 4096, FAR = 1 << 30;
 
         private final int[] stepWeights = new int[CELLS];
         private final int[] served = new int[CELLS];
-        private final int[][] best = new int[SETS][];
+        private final int[][] best = new int[SETS][CELLS];
         private final boolean[] settled = new boolean[SETS];
+        private final int[] queue = new int[CELLS];
+        private final boolean[] queued = new boolean[CELLS];
+        private int head = 0;
+        private int waiting = 0;
         private int start = 0;
         private int goal = 0;
 
@@ -913,9 +921,6 @@ public final class DeltaRoad {
         private void settleParts(int set) {
             for (int part = 0; part <= set; part++) {
                 if ((part & ~set) == 0 && !settled[part]) {
-                    if (best[part] == null) {
-                        best[part] = new int[CELLS];
-                    }
                     enter(best[part], part);
                     spread(best[part]);
                     settled[part] = true;
@@ -937,26 +942,38 @@ public final class DeltaRoad {
             }
         }
 
+        /** What a cell's road costs less by now, its neighbours may gain from: so each such cell waits for its turn. */
         private void spread(int[] row) {
-            boolean changed = true;
-            for (int i = 0; i <= CELLS && changed; i++) {
-                changed = false;
-                for (int cell = 0; cell < CELLS; cell++) {
-                    changed |= ease(row, cell);
+            for (int cell = 0; cell < CELLS; cell++) {
+                if (row[cell] < FAR) {
+                    queueUp(cell);
                 }
-                for (int cell = CELLS - 1; cell >= 0; cell--) {
-                    changed |= ease(row, cell);
+            }
+            // In order of coming, all is settled behind at most one round for each cell.
+            for (int i = 0; i < CELLS * CELLS && waiting > 0; i++) {
+                int cell = queue[head];
+                head = head + 1 < CELLS ? head + 1 : 0;
+                waiting--;
+                queued[cell] = false;
+                for (int side = 0; side < SIDES; side++) {
+                    ease(row, cellAt(cell, side), row[cell]);
                 }
             }
         }
 
-        private boolean ease(int[] row, int cell) {
-            int weight = leastNext(row, cell) + stepWeights[cell];
-            if (weight >= row[cell]) {
-                return false;
+        private void ease(int[] row, int cell, int behind) {
+            if (cell >= 0 && behind + stepWeights[cell] < row[cell]) {
+                row[cell] = behind + stepWeights[cell];
+                queueUp(cell);
             }
-            row[cell] = weight;
-            return true;
+        }
+
+        private void queueUp(int cell) {
+            if (!queued[cell] && waiting < CELLS) {
+                queued[cell] = true;
+                queue[(head + waiting) % CELLS] = cell;
+                waiting++;
+            }
         }
 
         private static int leastNext(int[] row, int cell) {

@@ -1,1 +1,0 @@
-public final class SmokeTest { public static void main(String[] a) { if (new DeltaRoad().level(0) != 0) System.exit(1); } }
