@@ -486,6 +486,11 @@ public final class PromisesTest {
         // Of three: 13 first; 8 behind the other corner alone or with 0, 0 behind 0 alone.
         due.is("16 of three", x.share(7, 0, 0) * 100 + x.share(7, 0, 1), 2503);
         due.is("16 on the way", x.share(7, 2, 0) * 100 + x.share(7, 2, 1), 1303);
+        DeltaRoad y = new DeltaRoad();
+        Due.villages(y, "01:10,12:20,23:30,34:40,45:50,56:60");
+        for (int village = 0; village < 6; village++) {
+            due.is("16 of six, all on the way", y.share(63, village, 0) * 100 + y.share(63, village, 1), 1306);
+        }
         int[][] wrong = {{0, 0, 0}, {8, 0, 0}, {-1, 0, 0}, {1, 1, 0}, {5, 1, 1}, {7, 3, 0}, {7, -1, 0}, {7, 0, 2}, {7, 0, -1},
             {MIN, 0, 0}, {MAX, 0, 0}, {7, MIN, 0}, {7, MAX, 0}, {7, 32, 0}, {7, 0, MIN}, {7, 0, MAX}};
         for (int[] w : wrong) {
@@ -969,6 +974,9 @@ public final class PromisesTest {
         due.is("33 still written", x.leaves(1, 3, 2, 0), 1);
         due.is("33 a new row", x.sheet(3, 2, 24), 24);
         due.is("33 is empty", x.leaves(1, 3, 2, 0), NONE);
+        Due.villages(x, "00:1,00:1,00:1");
+        x.ends(0, 0);
+        due.is("33 all of it 0", x.leaves(7, 3, 2, 0), NONE);
         due.is("33 another lane", x.sheet(3, 1, 2), 2);
         due.is("33 not as before", x.item(3, 2, 0, 1), CAST);
         due.is("33 as now", x.item(3, 1, 1, 1), 1);
