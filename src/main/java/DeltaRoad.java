@@ -56,7 +56,7 @@ public final class DeltaRoad {
             case 6:
                 return costOf(cell);
             case 7:
-                return Math.max(0, bearingOf(cell));
+                return bearingOf(cell);
             default:
                 return world.ground.traits[what][cell];
         }
@@ -492,7 +492,7 @@ public final class DeltaRoad {
 
     private int bearingOf(int cell) {
         int firm = 40 - SOFTNESS_OF_KIND[world.ground.traits[KIND][cell]] + 15 * world.ground.traits[BONES][cell];
-        return firm - 4 * waterNow().depth[cell];
+        return Math.max(0, firm - 4 * waterNow().depth[cell]);
     }
 
     private int worthBy(Plan now, int set) {

@@ -129,7 +129,7 @@ final class PlainModel {
         if (s.cells[cell].bones == 1) {
             b += 15;
         }
-        return b;
+        return b < 0 ? 0 : b;
     }
 
     int make(int cell, int what, int v) {
@@ -183,7 +183,7 @@ final class PlainModel {
         }
         Cell c = s.cells[cell];
         int[] plain = {c.height, c.mud, c.kind, c.bones, c.spring, waterAt(s.level)[cell], costs()[cell],
-            Math.max(0, bears(cell))};
+            bears(cell)};
         return plain[what];
     }
 

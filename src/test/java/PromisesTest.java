@@ -680,6 +680,28 @@ public final class PromisesTest {
             due.is("22 wrong", x.sinks(w[0], w[1]), BAD);
         }
         due.is("22 most", x.sinks(999, 9), 0);
+        sinksWhereNothingIsBorne();
+    }
+
+    private static void sinksWhereNothingIsBorne() {
+        DeltaRoad x = new DeltaRoad();
+        x.make(0, 4, 1);
+        x.step(0);
+        x.step(1);
+        x.level(15);
+        due.is("22 bears just 0", x.told(1, 7), 0);
+        due.is("22 cut to 0 at just 0", x.sinks(8, 9), NONE);
+        due.is("22 1 is more than 0", x.sinks(9, 9), 0);
+        x.level(40);
+        due.is("22 cut to 0 in deep water", x.sinks(8, 9), NONE);
+        due.is("22 1 is more in deep water", x.sinks(9, 9), 0);
+        due.is("22 least weight, one axle", x.sinks(1, 1), 0);
+        x.make(1, 2, 3);
+        due.is("22 a channel bears no less than 0", x.sinks(1, 2), NONE);
+        x.level(16);
+        x.make(0, 3, 1);
+        due.is("22 bones come ahead of the floor", x.sinks(11, 1), 1);
+        due.is("22 bones under much water", x.sinks(12, 1), 0);
     }
 
     private static void toll() {
