@@ -217,7 +217,7 @@ public final class ModelTest {
                 due.is(name, x.road(a), m.road(a));
                 break;
             case 25:
-                a = random.nextBoolean() ? pick(1, 999) : 1 + random.nextInt(80);
+                a = random.nextBoolean() ? pick(1, 999) : 1 + random.nextInt(random.nextBoolean() ? 9 : 80);
                 b = pick(1, 9);
                 due.is(name, x.sinks(a, b), m.sinks(a, b));
                 break;
