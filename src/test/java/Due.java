@@ -1,9 +1,18 @@
-/** Counts the answers that are not as due, and types texts. */
+/** Counts the answers that are not as due. */
 final class Due {
-    static final long NINES = 0x3939393939393939L;
-
     private int wrong = 0;
     private int asked = 0;
+    private String sentence = "";
+
+    /** The words of the document that the next answers hang on. */
+    void says(String words) {
+        sentence = words;
+    }
+
+    /** The answer of the last call. */
+    void is(long got, long want) {
+        is("'" + sentence + "': " + Run.last(), got, want);
+    }
 
     void is(String call, long got, long want) {
         asked++;
@@ -22,32 +31,5 @@ final class Due {
 
     int wrong() {
         return wrong;
-    }
-
-    static long bytes(String text) {
-        long w = 0;
-        for (int i = 0; i < text.length(); i++) {
-            w = w << 8 | text.charAt(i);
-        }
-        return w;
-    }
-
-    static void type(DeltaRoad x, String text) {
-        for (int i = 0; i < text.length(); i += 8) {
-            String part = text.substring(i, Math.min(text.length(), i + 8));
-            if (x.type(bytes(part), part.length()) < 0) {
-                throw new IllegalStateException("not typed: " + text);
-            }
-        }
-    }
-
-    static int delta(DeltaRoad x, String text) {
-        type(x, text);
-        return x.delta();
-    }
-
-    static int villages(DeltaRoad x, String text) {
-        type(x, text);
-        return x.villages();
     }
 }

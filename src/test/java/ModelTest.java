@@ -7,11 +7,13 @@ public final class ModelTest {
         "4/4/4/4/4/4/4/4", "x", "12345678", "9cbs8mbs/7rb", "2ms2ms/0c0c0c0c0c0c0cbs"};
     private static final String[] VILLAGES = {"00:1", "66:99,06:10", "12:20,23:30,34:40,45:50,56:60,65:70", " 3 3 : 12 , 55:09",
         "11:100", "11:5 5", "11:5,", "22:7,22:7,22:7", "70:1", "01:1,01:1,01:1,01:1,01:1,01:1,01:1", "33:"};
+    /** Of an object's 512 calls: those kept to look at all in the end, and the most that one turn makes. */
+    private static final int CALLS_TO_LOOK = 120, CALLS_OF_A_TURN = 70;
     private static final String SIGNS = "0123456789mrcbs/:, ";
 
     private final Random random;
     private final Due due;
-    private DeltaRoad x = new DeltaRoad();
+    private Run x = new Run();
     private PlainModel m = new PlainModel();
     private String run = "";
 
@@ -23,13 +25,14 @@ public final class ModelTest {
 
     public static void main(String[] args) {
         Due due = new Due();
-        int runs = args.length > 0 ? Integer.parseInt(args[0]) : 120;
+        int runs = args.length > 0 ? Integer.parseInt(args[0]) : 1200;
         for (int seed = 0; seed < runs && due.wrong() == 0; seed++) {
             ModelTest test = new ModelTest(seed, due);
             test.start();
-            for (int i = 0; i < 250 && due.wrong() == 0; i++) {
-                test.call(i);
+            for (int i = 0; test.x.left() > CALLS_TO_LOOK + CALLS_OF_A_TURN && due.wrong() == 0; i++) {
+                test.turn(i);
             }
+            test.look();
         }
         due.end("ModelTest");
     }
@@ -52,18 +55,43 @@ public final class ModelTest {
         if (random.nextInt(8) == 0) {
             return;
         }
-        int shape = random.nextInt(3);
+        int shape = random.nextInt(4);
+        if (shape == 3) {
+            startByText();
+        } else {
+            startByCells(shape);
+        }
+        int number = random.nextInt(7);
+        for (int i = 0; i < number; i++) {
+            int cell = random.nextInt(49), loads = 1 + random.nextInt(99);
+            due.is(run + " village", x.village(cell, loads), m.village(cell, loads));
+        }
+    }
+
+    /** A text as long as the tape, cut off somewhere in its last row. */
+    private void startByText() {
+        StringBuilder b = new StringBuilder();
+        for (int row = 0; row < 7; row++) {
+            b.append(row == 0 ? "" : "/");
+            for (int column = 0; column < 7; column++) {
+                b.append(random.nextInt(random.nextBoolean() ? 10 : 4));
+                b.append(new String[] {"", "", "m", "r", "c", "b", "s", "ms", "cb", "rbs"}[random.nextInt(10)]);
+            }
+        }
+        text(b.substring(0, Math.min(b.length(), 140)));
+        due.is(run + " start", x.delta(), m.delta());
+        for (int cell = random.nextInt(3); cell < 49; cell += 1 + random.nextInt(3)) {
+            both(cell, 1, random.nextInt(10));
+        }
+    }
+
+    private void startByCells(int shape) {
         for (int cell = 0; cell < 49; cell++) {
             both(cell, 0, shape == 0 ? random.nextInt(21) : shape == 1 ? random.nextInt(4) : 5);
             both(cell, 1, random.nextInt(3) == 0 ? random.nextInt(10) : random.nextInt(2));
             both(cell, 2, random.nextInt(shape == 2 ? 2 : 4));
             both(cell, 3, random.nextInt(4) == 0 ? 1 : 0);
             both(cell, 4, random.nextInt(6) == 0 ? 1 : 0);
-        }
-        int number = random.nextInt(7);
-        for (int i = 0; i < number; i++) {
-            int cell = random.nextInt(49), loads = 1 + random.nextInt(99);
-            due.is(run + " village", x.village(cell, loads), m.village(cell, loads));
         }
     }
 
@@ -74,7 +102,7 @@ public final class ModelTest {
     private void text(String text) {
         for (int i = 0; i < text.length(); i += 8) {
             String part = text.substring(i, Math.min(text.length(), i + 8));
-            long w = Due.bytes(part);
+            long w = Run.bytes(part);
             due.is(run + " type", x.type(w, part.length()), m.type(w, part.length()));
         }
     }
@@ -93,16 +121,13 @@ public final class ModelTest {
         return b.toString();
     }
 
-    private void call(int i) {
+    private void turn(int i) {
         int kind = random.nextInt(40);
-        String name = run + " call " + i + " kind " + kind;
+        String name = run + " turn " + i + " kind " + kind;
         if (kind < 20) {
             ground(name, kind);
         } else {
             rest(name, kind);
-        }
-        if (i % 25 == 24) {
-            look(name);
         }
     }
 
@@ -127,7 +152,7 @@ public final class ModelTest {
                 break;
             case 4:
                 b = pick(1, 8);
-                long w = random.nextInt(3) > 0 ? Due.bytes("3m3s/4 b") : random.nextLong();
+                long w = random.nextInt(3) > 0 ? Run.bytes("3m3s/4 b") : random.nextLong();
                 due.is(name, x.type(w, b), m.type(w, b));
                 break;
             case 5:
@@ -300,24 +325,25 @@ public final class ModelTest {
         }
     }
 
-    /** All that can be asked without changing anything. */
-    private void look(String name) {
-        for (int cell = 0; cell < 49; cell++) {
-            for (int what = 0; what < 8; what++) {
-                due.is(name + " told " + cell + " " + what, x.told(cell, what), m.told(cell, what));
-            }
-        }
+    /** What can be asked without changing anything, by as many calls as are left. */
+    private void look() {
+        String name = run + " look";
         for (int what = 0; what < 7; what++) {
             due.is(name + " count " + what, x.count(what), m.count(what));
         }
         for (int what = 0; what < 4; what++) {
             due.is(name + " road " + what, x.road(what), m.road(what));
         }
-        for (int i = 0; i < m.s.road.size(); i++) {
+        for (int i = 0; i < m.s.villages.size(); i++) {
+            due.is(name + " cell of " + i, x.of(i, 0), m.of(i, 0));
+            due.is(name + " loads of " + i, x.of(i, 1), m.of(i, 1));
+        }
+        for (int i = 0; i < m.s.road.size(); i += 1 + random.nextInt(3)) {
             due.is(name + " at " + i, x.at(i), m.at(i));
         }
-        for (int i = 0; i < m.s.villages.size(); i++) {
-            due.is(name + " of " + i, x.of(i, 0) * 100 + x.of(i, 1), m.of(i, 0) * 100 + m.of(i, 1));
+        while (x.left() > 0) {
+            int cell = random.nextInt(49), what = random.nextInt(8);
+            due.is(name + " told " + cell + " " + what, x.told(cell, what), m.told(cell, what));
         }
     }
 }

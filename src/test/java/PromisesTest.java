@@ -51,7 +51,7 @@ public final class PromisesTest {
     }
 
     private static void newObject() {
-        DeltaRoad x = new DeltaRoad();
+        Run x = new Run();
         int[] plain = {5, 0, 0, 0, 0, 0, 1, 40};
         for (int cell = 0; cell < 49; cell++) {
             for (int what = 0; what < 8; what++) {
@@ -75,7 +75,7 @@ public final class PromisesTest {
     }
 
     private static void make() {
-        DeltaRoad x = new DeltaRoad();
+        Run x = new Run();
         int[] first = {5, 0, 0, 0, 0};
         int[] most = {20, 9, 3, 1, 1};
         for (int what = 0; what < 5; what++) {
@@ -95,7 +95,7 @@ public final class PromisesTest {
     }
 
     private static void told() {
-        DeltaRoad x = new DeltaRoad();
+        Run x = new Run();
         x.make(10, 0, 2);
         x.make(10, 4, 1);
         x.level(5);
@@ -128,7 +128,7 @@ public final class PromisesTest {
     }
 
     private static void level() {
-        DeltaRoad x = new DeltaRoad();
+        Run x = new Run();
         due.is("4 no spring", x.level(40), 0);
         x.make(24, 4, 1);
         due.is("4 at height", x.level(5), 0);
@@ -157,7 +157,7 @@ public final class PromisesTest {
     }
 
     private static int corner() {
-        DeltaRoad x = new DeltaRoad();
+        Run x = new Run();
         x.make(1, 0, 20);
         x.make(7, 0, 20);
         x.make(0, 4, 1);
@@ -165,7 +165,7 @@ public final class PromisesTest {
     }
 
     private static void flood() {
-        DeltaRoad x = new DeltaRoad();
+        Run x = new Run();
         x.make(24, 4, 1);
         x.make(24, 1, 3);
         due.is("5 dry", x.flood(), 0);
@@ -177,7 +177,7 @@ public final class PromisesTest {
         due.is("5 on and up", x.told(10, 1), 1);
         due.is("5 then left", x.told(23, 1), 1);
         due.is("5 none lost", x.count(3), 3);
-        DeltaRoad y = new DeltaRoad();
+        Run y = new Run();
         for (int cell = 0; cell < 49; cell++) {
             y.make(cell, 1, 2);
         }
@@ -187,7 +187,7 @@ public final class PromisesTest {
         y.make(0, 1, 1);
         due.is("5 two sides", y.flood(), 2);
         due.is("5 both came", y.told(0, 1), 3);
-        DeltaRoad z = new DeltaRoad();
+        Run z = new Run();
         z.make(24, 1, 5);
         z.make(24, 4, 1);
         z.level(10);
@@ -200,7 +200,7 @@ public final class PromisesTest {
     }
 
     private static void floodInto9() {
-        DeltaRoad x = new DeltaRoad();
+        Run x = new Run();
         for (int cell = 0; cell < 49; cell++) {
             x.make(cell, 0, 20);
         }
@@ -229,9 +229,9 @@ public final class PromisesTest {
     }
 
     private static void type() {
-        DeltaRoad x = new DeltaRoad();
+        Run x = new Run();
         due.is("6 one", x.type('3', 1), 1);
-        due.is("6 highest first", x.type(Due.bytes("mbs"), 3), 4);
+        due.is("6 highest first", x.type(Run.bytes("mbs"), 3), 4);
         due.is("6 that was 3mbs", x.delta(), 1);
         due.is("6 kind", x.told(0, 2), 1);
         due.is("6 only the lowest count", x.type(0xff00L << 48 | '3', 1), 1);
@@ -245,9 +245,9 @@ public final class PromisesTest {
         due.is("6 byte 0 inside", x.type('3', 2), BAD);
         due.is("6 32 and 126", x.type(32 * 256 + 126, 2), 3);
         for (int i = 0; i < 17; i++) {
-            due.is("6 eight", x.type(Due.bytes("33333333"), 8), 11 + 8 * i > 140 ? FULL : 11 + 8 * i);
+            due.is("6 eight", x.type(Run.bytes("33333333"), 8), 11 + 8 * i > 140 ? FULL : 11 + 8 * i);
         }
-        due.is("6 too many", x.type(Due.bytes("33"), 2), FULL);
+        due.is("6 too many", x.type(Run.bytes("33"), 2), FULL);
         due.is("6 just enough", x.type('3', 1), 140);
         due.is("6 full", x.type('3', 1), FULL);
         due.is("6 bad ahead of full", x.type(31, 1), BAD);
@@ -257,13 +257,13 @@ public final class PromisesTest {
     }
 
     private static void deltaTexts() {
-        DeltaRoad x = new DeltaRoad();
+        Run x = new Run();
         x.make(0, 1, 4);
         x.make(0, 3, 1);
         x.make(0, 4, 1);
         x.make(1, 1, 4);
         x.make(8, 1, 4);
-        due.is("7 two rows", Due.delta(x, "0 9m/8rb 7cbs6s5bs"), 6);
+        due.is("7 two rows", x.delta("0 9m/8rb 7cbs6s5bs"), 6);
         int[][] want = {{0, 0, 0, 0, 0}, {18, 0, 1, 0, 0}, {5, 0, 0, 0, 0}};
         for (int cell = 0; cell < 3; cell++) {
             for (int what = 0; what < 5; what++) {
@@ -277,20 +277,20 @@ public final class PromisesTest {
             }
         }
         due.is("7 the tape is empty then", x.delta(), -20);
-        due.is("7 all", Due.delta(x, "0000000/0000000/0000000/0000000/0000000/0000000/0000000s"), 49);
+        due.is("7 all", x.delta("0000000/0000000/0000000/0000000/0000000/0000000/0000000s"), 49);
         due.is("7 all wet", x.level(1), 49);
-        due.is("7 blanks all over", Due.delta(x, "   1   r  b  s  /  2  "), 2);
+        due.is("7 blanks all over", x.delta("   1   r  b  s  /  2  "), 2);
         due.is("7 first", x.told(0, 0), 2);
         due.is("7 second row", x.told(7, 0), 4);
     }
 
     private static void deltaFaults() {
-        DeltaRoad x = new DeltaRoad();
+        Run x = new Run();
         String[] texts = {"", " ", "  x", "m", "/", "3/", "3/ ", "3//3", "3mr", "3bm", "3bb", "3ss", "3sm", "33333333", "3333333 3",
             "3/3/3/3/3/3/3/", "3M", "3:", "3,", "/3", "33/3z3"};
         int[] places = {0, 1, 2, 0, 0, 2, 3, 2, 2, 2, 2, 2, 2, 7, 8, 13, 1, 1, 1, 0, 4};
         for (int i = 0; i < texts.length; i++) {
-            due.is("7 fault in '" + texts[i] + "'", Due.delta(x, texts[i]), -20 - places[i]);
+            due.is("7 fault in '" + texts[i] + "'", x.delta(texts[i]), -20 - places[i]);
             due.is("7 empty behind it", x.type('0', 1), 1);
             due.is("7 empty again", x.villages(), -21);
             due.is("7 stays", x.told(0, 0) * 100 + x.told(7, 0), 505);
@@ -298,31 +298,31 @@ public final class PromisesTest {
     }
 
     private static void villagesTexts() {
-        DeltaRoad x = new DeltaRoad();
+        Run x = new Run();
         x.village(3, 3);
         x.village(4, 4);
         x.village(5, 5);
-        due.is("8 in place of those told", Due.villages(x, "00:1, 6 6 : 99 "), 2);
+        due.is("8 in place of those told", x.villages("00:1, 6 6 : 99 "), 2);
         due.is("8 how many", x.count(0), 2);
         due.is("8 first", x.of(0, 0) * 100 + x.of(0, 1), 1);
         due.is("8 second", x.of(1, 0) * 100 + x.of(1, 1), 4899);
         due.is("8 none behind", x.of(2, 0), BAD);
         due.is("8 the tape is empty then", x.villages(), -20);
-        due.is("8 six", Due.villages(x, "12:7,12:7,12:7,12:7,12:7,12:7"), 6);
+        due.is("8 six", x.villages("12:7,12:7,12:7,12:7,12:7,12:7"), 6);
         due.is("8 row and column", x.of(5, 0), 9);
-        due.is("8 noughts ahead", Due.villages(x, "23:0000000000000012"), 1);
+        due.is("8 noughts ahead", x.villages("23:0000000000000012"), 1);
         due.is("8 twelve", x.of(0, 1), 12);
     }
 
     private static void villagesFaults() {
-        DeltaRoad x = new DeltaRoad();
+        Run x = new Run();
         x.village(3, 3);
         String[] texts = {"", "   ", "x", "7", "07", "0", "00", "00 ", "00;", "00:", "00:x", "00:0", "00:000", "00:100",
             "00:99999999999999999999999", "00: 100", "00:4294967297", "00:1 2", "00:1x", "00:1,", "00:1,,", "00:1,0",
             "00:1,11:0", "00:1/11:1", "00:1,00:1,00:1,00:1,00:1,00:1,", "00:1 ,  77:1", "00:-1"};
         int[] places = {0, 3, 0, 0, 1, 1, 2, 3, 2, 3, 3, 3, 3, 3, 3, 4, 3, 5, 4, 5, 5, 6, 8, 4, 29, 8, 3};
         for (int i = 0; i < texts.length; i++) {
-            due.is("8 fault in '" + texts[i] + "'", Due.villages(x, texts[i]), -20 - places[i]);
+            due.is("8 fault in '" + texts[i] + "'", x.villages(texts[i]), -20 - places[i]);
             due.is("8 empty behind it", x.type('x', 1), 1);
             due.is("8 empty again", x.delta(), -20);
             due.is("8 stay", x.count(0) * 10000 + x.of(0, 0) * 100 + x.of(0, 1), 10303);
@@ -330,7 +330,7 @@ public final class PromisesTest {
     }
 
     private static void count() {
-        DeltaRoad x = new DeltaRoad();
+        Run x = new Run();
         x.village(0, 1);
         x.village(0, 1);
         x.step(8);
@@ -356,7 +356,7 @@ public final class PromisesTest {
     }
 
     private static void village() {
-        DeltaRoad x = new DeltaRoad();
+        Run x = new Run();
         int[][] wrong = {{-1, 1}, {49, 1}, {0, 0}, {0, 100}, {0, -1}, {MIN, 1}, {MAX, 1}, {0, MIN}, {0, MAX}};
         for (int[] w : wrong) {
             due.is("10 wrong", x.village(w[0], w[1]), BAD);
@@ -377,7 +377,7 @@ public final class PromisesTest {
     }
 
     private static void of() {
-        DeltaRoad x = new DeltaRoad();
+        Run x = new Run();
         due.is("11 none yet", x.of(0, 0), BAD);
         x.village(17, 42);
         due.is("11 cell", x.of(0, 0), 17);
@@ -389,7 +389,7 @@ public final class PromisesTest {
     }
 
     private static void ends() {
-        DeltaRoad x = new DeltaRoad();
+        Run x = new Run();
         due.is("12 at first", x.ends(48, 7), 48);
         due.is("12 then", x.ends(3, 3), 4807);
         due.is("12 one", x.cheapest(0), 1);
@@ -401,7 +401,7 @@ public final class PromisesTest {
     }
 
     private static void cheapest() {
-        DeltaRoad x = new DeltaRoad();
+        Run x = new Run();
         due.is("13 empty set", x.cheapest(0), 13);
         due.is("13 no villages", x.cheapest(1), BAD);
         x.village(6, 10);
@@ -442,7 +442,7 @@ public final class PromisesTest {
     }
 
     private static void worth() {
-        DeltaRoad x = new DeltaRoad();
+        Run x = new Run();
         due.is("14 empty", x.worth(0), -13);
         x.village(6, 13);
         x.village(42, 99);
@@ -456,7 +456,7 @@ public final class PromisesTest {
     }
 
     private static void vote() {
-        DeltaRoad x = new DeltaRoad();
+        Run x = new Run();
         due.is("15 nobody", x.vote(), 0);
         x.village(6, 7);
         due.is("15 on the way", x.vote(), 1);
@@ -466,16 +466,16 @@ public final class PromisesTest {
         due.is("15 both at the corner pay as much as the detour", x.vote(), 6);
         x.village(0, 1);
         due.is("15 all but", x.vote(), 14);
-        Due.villages(x, "06:8,60:8");
+        x.villages("06:8,60:8");
         due.is("15 the detour paid for: like ones, the least", x.vote(), 1);
-        Due.villages(x, "06:9,60:9");
+        x.villages("06:9,60:9");
         due.is("15 worth the detour", x.vote(), 3);
-        Due.villages(x, "60:8,06:9");
+        x.villages("60:8,06:9");
         due.is("15 the later alone", x.vote(), 2);
     }
 
     private static void share() {
-        DeltaRoad x = new DeltaRoad();
+        Run x = new Run();
         due.is("16 no villages", x.share(0, 0, 0), BAD);
         x.village(6, 1);
         x.village(42, 1);
@@ -486,8 +486,8 @@ public final class PromisesTest {
         // Of three: 13 first; 8 behind the other corner alone or with 0, 0 behind 0 alone.
         due.is("16 of three", x.share(7, 0, 0) * 100 + x.share(7, 0, 1), 2503);
         due.is("16 on the way", x.share(7, 2, 0) * 100 + x.share(7, 2, 1), 1303);
-        DeltaRoad y = new DeltaRoad();
-        Due.villages(y, "01:10,12:20,23:30,34:40,45:50,56:60");
+        Run y = new Run();
+        y.villages("01:10,12:20,23:30,34:40,45:50,56:60");
         for (int village = 0; village < 6; village++) {
             due.is("16 of six, all on the way", y.share(63, village, 0) * 100 + y.share(63, village, 1), 1306);
         }
@@ -499,7 +499,7 @@ public final class PromisesTest {
     }
 
     private static void lay() {
-        DeltaRoad x = new DeltaRoad();
+        Run x = new Run();
         due.is("17 straight", x.lay(0), 13);
         row(x, "17 right ahead of down", 0, 1, 2, 3, 4, 5, 6, 13, 20, 27, 34, 41, 48);
         x.ends(48, 0);
@@ -523,7 +523,7 @@ public final class PromisesTest {
         due.is("17 stays", x.count(1), 3);
     }
 
-    private static void row(DeltaRoad x, String name, int... cells) {
+    private static void row(Run x, String name, int... cells) {
         for (int i = 0; i < cells.length; i++) {
             due.is(name + " " + i, x.at(i), cells[i]);
         }
@@ -534,7 +534,7 @@ public final class PromisesTest {
         // A path of 31 dry cells that winds through deep channels; its end is passed and left again.
         String[] walls = {"##.....", ".#.###.", ".#....#", ".####..", ".#...#.", ".#.#.#.", "...#..."};
         int[] villages = {12, 32, 48, 0, 7, 6};
-        DeltaRoad x = new DeltaRoad();
+        Run x = new Run();
         for (int cell = 0; cell < 49; cell++) {
             boolean wall = walls[cell / 7].charAt(cell % 7) == '#';
             x.make(cell, 0, wall ? 0 : 20);
@@ -558,7 +558,7 @@ public final class PromisesTest {
     }
 
     private static void step() {
-        DeltaRoad x = new DeltaRoad();
+        Run x = new Run();
         int[] wrong = {-1, 49, MIN, MAX};
         for (int cell : wrong) {
             due.is("18 wrong", x.step(cell), BAD);
@@ -585,7 +585,7 @@ public final class PromisesTest {
     }
 
     private static void back() {
-        DeltaRoad x = new DeltaRoad();
+        Run x = new Run();
         due.is("19 none", x.back(1), NOT);
         x.lay(0);
         int[] wrong = {0, -1, 61, MIN, MAX};
@@ -604,7 +604,7 @@ public final class PromisesTest {
     }
 
     private static void at() {
-        DeltaRoad x = new DeltaRoad();
+        Run x = new Run();
         due.is("20 none", x.at(0), BAD);
         x.step(30);
         x.step(31);
@@ -617,7 +617,7 @@ public final class PromisesTest {
     }
 
     private static void road() {
-        DeltaRoad x = new DeltaRoad();
+        Run x = new Run();
         for (int what = 0; what < 4; what++) {
             due.is("21 none " + what, x.road(what), 0);
         }
@@ -648,7 +648,7 @@ public final class PromisesTest {
     }
 
     private static void sinks() {
-        DeltaRoad x = new DeltaRoad();
+        Run x = new Run();
         due.is("22 no road", x.sinks(999, 1), NONE);
         x.lay(0);
         due.is("22 just borne", x.sinks(40, 1), NONE);
@@ -684,7 +684,7 @@ public final class PromisesTest {
     }
 
     private static void sinksWhereNothingIsBorne() {
-        DeltaRoad x = new DeltaRoad();
+        Run x = new Run();
         x.make(0, 4, 1);
         x.step(0);
         x.step(1);
@@ -705,7 +705,7 @@ public final class PromisesTest {
     }
 
     private static void toll() {
-        DeltaRoad x = new DeltaRoad();
+        Run x = new Run();
         due.is("23 no road", x.toll(1), 0);
         x.step(0);
         x.step(1);
@@ -725,7 +725,7 @@ public final class PromisesTest {
     }
 
     private static void goes() {
-        DeltaRoad x = new DeltaRoad();
+        Run x = new Run();
         x.make(0, 4, 1);
         due.is("24 no road", x.goes(), NONE);
         x.step(8);
@@ -751,7 +751,7 @@ public final class PromisesTest {
     }
 
     private static void weight() {
-        DeltaRoad x = new DeltaRoad();
+        Run x = new Run();
         due.is("25 first", x.weight(0, 9), 0);
         due.is("25 last", x.weight(40, 3), 0);
         int[][] wrong = {{-1, 1}, {41, 1}, {0, -1}, {0, 10}, {MIN, 1}, {MAX, 1}, {0, MIN}, {0, MAX}};
@@ -764,7 +764,7 @@ public final class PromisesTest {
     }
 
     private static void odds() {
-        DeltaRoad x = new DeltaRoad();
+        Run x = new Run();
         due.is("26 no weights", x.odds(1, 0), NOT);
         int[][] wrong = {{0, 0}, {7, 0}, {1, -1}, {1, 2}, {-1, 0}, {MIN, 0}, {MAX, 0}, {1, MIN}, {1, MAX}};
         for (int[] w : wrong) {
@@ -797,7 +797,7 @@ public final class PromisesTest {
     }
 
     private static void weeks() {
-        DeltaRoad x = new DeltaRoad();
+        Run x = new Run();
         x.make(24, 4, 1);
         x.step(24);
         due.is("27 no weights", x.weeks(1), NOT);
@@ -832,7 +832,7 @@ public final class PromisesTest {
     }
 
     private static void weeksAndFloods() {
-        DeltaRoad x = new DeltaRoad();
+        Run x = new Run();
         x.make(24, 4, 1);
         x.make(24, 1, 9);
         x.weight(20, 1);
@@ -843,7 +843,7 @@ public final class PromisesTest {
         x.leave();
         due.is("27 three weeks", x.weeks(3), NONE);
         due.is("27 three floods", x.told(24, 1), 5);
-        DeltaRoad y = new DeltaRoad();
+        Run y = new Run();
         y.make(24, 4, 1);
         y.make(24, 1, 4);
         y.make(17, 1, 4);
@@ -857,7 +857,7 @@ public final class PromisesTest {
     }
 
     private static void seed() {
-        DeltaRoad x = new DeltaRoad();
+        Run x = new Run();
         due.is("28 at first", x.seed(0), 1);
         due.is("28 0", x.seed(MAX), 0);
         due.is("28 below", x.seed(-1), BAD);
@@ -870,7 +870,7 @@ public final class PromisesTest {
     }
 
     private static void leave() {
-        DeltaRoad x = new DeltaRoad();
+        Run x = new Run();
         due.is("29 no road", x.leave(), 0);
         int[] cells = {0, 1, 0, 7, 14};
         for (int cell : cells) {
@@ -888,14 +888,14 @@ public final class PromisesTest {
     }
 
     private static void image() {
-        DeltaRoad x = new DeltaRoad();
+        Run x = new Run();
         due.is("31 none", x.restore(), NONE);
         fill(x, 1);
         due.is("30 image", x.image(), 1);
         fill(x, 2);
         x.sheet(1, 1, 7);
         due.is("30 changed", sum(x), 2);
-        x.type(Due.bytes("7/7"), 3);
+        x.type(Run.bytes("7/7"), 3);
         due.is("31 restore", x.restore(), 1);
         due.is("31 as it was", sum(x), 1);
         due.is("31 sheets stay", x.drop(1), 7);
@@ -910,13 +910,13 @@ public final class PromisesTest {
     }
 
     /** All that an image keeps, so that each thing differs between the two. */
-    private static void fill(DeltaRoad x, int n) {
+    private static void fill(Run x, int n) {
         for (int what = 0; what < 5; what++) {
             x.make(30, what, n - 1);
             x.make(31, what, 2 - n);
         }
         x.level(n);
-        Due.villages(x, n == 1 ? "12:7" : "33:8,44:9");
+        x.villages(n == 1 ? "12:7" : "33:8,44:9");
         x.ends(n, 40 + n);
         x.leave();
         x.step(n);
@@ -928,7 +928,7 @@ public final class PromisesTest {
         x.seed(1000 + n);
     }
 
-    private static int sum(DeltaRoad x) {
+    private static int sum(Run x) {
         for (int n = 1; n <= 2; n++) {
             boolean all = x.count(6) == n && x.count(0) == n && x.count(1) == n && x.count(5) == 2 * n - 1;
             for (int what = 0; what < 5; what++) {
@@ -947,10 +947,10 @@ public final class PromisesTest {
     }
 
     private static void leaves() {
-        DeltaRoad x = new DeltaRoad();
+        Run x = new Run();
         x.sheet(0, 2, 5);
         due.is("32 no villages", x.leaves(1, 0, 2, 0), BAD);
-        Due.villages(x, "06:1,60:1,33:1");
+        x.villages("06:1,60:1,33:1");
         int[] told = {10, 11, 5, 0, 0};
         for (int i = 0; i < 5; i++) {
             x.item(0, 2, i, told[i]);
@@ -980,7 +980,7 @@ public final class PromisesTest {
     }
 
     private static void sheet() {
-        DeltaRoad x = new DeltaRoad();
+        Run x = new Run();
         int[][] wrong = {{-1, 0, 1, BAD}, {4, 0, 1, BAD}, {0, -1, 1, BAD}, {0, 3, 1, BAD}, {0, 0, 25, BAD}, {0, 0, MAX, BAD},
             {0, 0, -1, SIZE}, {0, 0, MIN, SIZE}, {4, 0, -1, BAD}, {0, 3, -1, BAD}};
         for (int[] w : wrong) {
@@ -996,7 +996,7 @@ public final class PromisesTest {
         due.is("33 still written", x.leaves(1, 3, 2, 0), 1);
         due.is("33 a new row", x.sheet(3, 2, 24), 24);
         due.is("33 is empty", x.leaves(1, 3, 2, 0), NONE);
-        Due.villages(x, "00:1,00:1,00:1");
+        x.villages("00:1,00:1,00:1");
         x.ends(0, 0);
         due.is("33 all of it 0", x.leaves(7, 3, 2, 0), NONE);
         due.is("33 another lane", x.sheet(3, 1, 2), 2);
@@ -1006,7 +1006,7 @@ public final class PromisesTest {
     }
 
     private static void drop() {
-        DeltaRoad x = new DeltaRoad();
+        Run x = new Run();
         int[] wrong = {-1, 4, MIN, MAX};
         for (int sheet : wrong) {
             due.is("34 wrong", x.drop(sheet), BAD);
@@ -1021,7 +1021,7 @@ public final class PromisesTest {
     }
 
     private static void item() {
-        DeltaRoad x = new DeltaRoad();
+        Run x = new Run();
         x.village(24, 1);
         for (int lane = 0; lane < 3; lane++) {
             x.sheet(lane, lane, 3);
@@ -1051,22 +1051,18 @@ public final class PromisesTest {
     }
 
     private static void film() {
-        DeltaRoad x = new DeltaRoad();
-        x.make(41, 4, 1);
-        x.make(41, 0, 0);
-        x.make(40, 0, 1);
-        x.make(34, 0, 2);
-        x.make(35, 0, 20);
-        x.level(20);
         int[] water = {0, 15, 15, 15, 15, 19, 20};
         for (int lane = 0; lane < 3; lane++) {
+            Run x = lakeInRow5();
             x.sheet(1, lane, 9);
             due.is("36 film", x.film(5, 1, lane, 2), 7);
             due.is("36 too far", x.film(5, 1, lane, 3), INDEX);
             for (int i = 0; i < 9; i++) {
-                due.is("36 item " + i, itemOr1(x, 1, lane, i), i < 2 ? 1 : Math.max(1, water[i - 2]));
+                due.is("36 item " + i, x.itemOr1(1, lane, i), i < 2 ? 1 : Math.max(1, water[i - 2]));
             }
         }
+        Run x = lakeInRow5();
+        x.sheet(1, 2, 9);
         int[][] wrong = {{-1, 1, 2, 0, BAD}, {7, 1, 2, 0, BAD}, {0, -1, 2, 0, BAD}, {0, 4, 2, 0, BAD}, {0, 1, 3, 0, BAD},
             {0, 1, -1, 0, BAD}, {0, 0, 2, -1, NULL}, {0, 1, 0, -1, CAST}, {0, 1, 2, -1, INDEX}, {0, 1, 2, MIN, INDEX},
             {0, 1, 2, MAX, INDEX}, {7, 0, 2, 0, BAD}};
@@ -1075,24 +1071,22 @@ public final class PromisesTest {
         }
         x.sheet(2, 0, 6);
         due.is("36 too short", x.film(0, 2, 0, 0), INDEX);
+        x.film(5, 1, 2, 2);
         x.level(40);
         due.is("36 anew", x.film(5, 1, 2, 0), 7);
-        due.is("36 the deepest", itemOr1(x, 1, 2, 6), 40);
-        due.is("36 the first", itemOr1(x, 1, 2, 0), 20);
-        due.is("36 not beyond", itemOr1(x, 1, 2, 7), 19);
+        due.is("36 the deepest", x.itemOr1(1, 2, 6), 40);
+        due.is("36 the first", x.itemOr1(1, 2, 0), 20);
+        due.is("36 not beyond", x.itemOr1(1, 2, 7), 19);
     }
 
-    /** An item can't be asked for, but a village leaves just while it is more than a road of one cell costs (1 .. 41). */
-    private static int itemOr1(DeltaRoad x, int sheet, int lane, int i) {
-        x.image();
-        Due.delta(x, "0s");
-        Due.villages(x, "00:1");
-        x.ends(0, 0);
-        int level = 0;
-        while (level < 40 && x.level(level) >= 0 && x.leaves(1, sheet, lane, i) == 1) {
-            level++;
-        }
-        x.restore();
-        return level + 1;
+    private static Run lakeInRow5() {
+        Run x = new Run();
+        x.make(41, 4, 1);
+        x.make(41, 0, 0);
+        x.make(40, 0, 1);
+        x.make(34, 0, 2);
+        x.make(35, 0, 20);
+        x.level(20);
+        return x;
     }
 }

@@ -37,7 +37,7 @@ public final class RoomTest {
         for (int i = 0; i < 25; i++) {
             sum += x.level(i) + x.flood() + x.vote() + x.share(63, 3, 0) + x.lay(63) + x.goes() + (int) x.odds(6, 0);
             sum += x.weeks(60) + x.image() + x.restore() + x.sheet(i % 4, i % 3, 24) + x.leaves(63, i % 4, i % 3, 0);
-            sum += x.film(3, i % 4, i % 3, 0) + x.type(Due.NINES, 8) + x.delta() + x.villages() + x.worth(63) + x.road(1);
+            sum += x.film(3, i % 4, i % 3, 0) + x.type(0x3939393939393939L, 8) + x.delta() + x.villages() + x.worth(63) + x.road(1);
         }
         return sum;
     }
