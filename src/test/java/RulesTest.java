@@ -124,6 +124,6 @@ public final class RulesTest {
             int parameters = heads.group(2).isEmpty() ? 0 : heads.group(2).split(",").length;
             due.is("wide: " + heads.group().trim(), parameters <= 7 ? 1 : 0, 1);
         }
-        due.is("methods seen", seen > 80 ? 1 : 0, 1);
+        due.is("methods seen: those of the face at least", seen >= 36 ? 1 : 0, 1);
     }
 }

@@ -10,6 +10,7 @@ public final class SheetsTest {
         lanes();
         sizes();
         newRows();
+        newRowsAreOf0();
         drops();
         itemsByIndex();
         lowestBits();
@@ -118,6 +119,27 @@ public final class SheetsTest {
             x.sheet(2, lane, 24);
             due.is(x.leaves(1, 2, lane, 5), NONE);
             x.item(2, lane, 5, 99);
+        }
+    }
+
+    private static void newRowsAreOf0() {
+        due.says("A SHEET holds a new row of a LANE: nothing told in it");
+        for (int lane = 0; lane < 3; lane++) {
+            Run x = new Run();
+            x.villages("00:1,00:1,00:1,00:1,00:1,00:1");
+            x.ends(0, 0);
+            x.sheet(0, lane, 24);
+            for (int from = 0; from <= 18; from++) {
+                due.is(x.leaves(63, 0, lane, from), NONE);
+            }
+            x.item(0, lane, 0, 1);
+            due.is(x.leaves(63, 0, lane, 0), NONE);
+            x.item(0, lane, 23, 1);
+            due.is(x.leaves(63, 0, lane, 18), NONE);
+            x.item(0, lane, 18, 1);
+            due.is(x.leaves(63, 0, lane, 18), 33);
+            x.sheet(0, lane, 24);
+            due.is(x.leaves(63, 0, lane, 18), NONE);
         }
     }
 

@@ -404,12 +404,16 @@ public final class TextsTest {
             due.is(x.of(0, 1), loads);
         }
         due.says("of a number that may not be its first byte");
-        String[] none = {"0", "00", "000", "100", "101", "999", "1000", "256", "257", "65537", "2147483648", "4294967297",
-            "4294967301", "18446744073709551617", "99999999999999999999999999999999"};
+        String[] none = {"0", "00", "000", "100", "101", "999", "1000", "1005", "10005", "100005", "261", "65541", "2147483653",
+            "4294967301", "18446744073709551621", "9".repeat(30)};
+        Run y = new Run();
         for (String number : none) {
-            due.is(x.villages("00:" + number), -23);
-            due.is(x.villages("12:3,00:  " + number + ",xx"), -30);
+            due.is(y.villages("00:" + number), -23);
+            due.is(y.villages("12:3,00:  " + number + ",xx"), -30);
         }
+        due.is(y.villages("00:" + "9".repeat(137)), -23);
+        due.is(y.villages("00:" + "0".repeat(137)), -23);
+        due.is(y.count(0), 0);
         due.is(x.villages("00:-1"), -23);
         due.is(x.villages("00:+1"), -23);
         due.is(x.villages("00:x"), -23);

@@ -15,7 +15,9 @@ public final class VillagesTest {
         asOftenAsItLikes();
         serves();
         servesByItsEnds();
+        servesByOneEndAlone();
         leastCost();
+        leastCostByALongWay();
         setsThatAreNone();
         worthOfSets();
         theVote();
@@ -28,6 +30,7 @@ public final class VillagesTest {
         layInPlace();
         layEveryPlace();
         layFull();
+        layFullAtOnce();
         renewed();
         due.end("VillagesTest");
     }
@@ -206,6 +209,30 @@ public final class VillagesTest {
         due.is(x.cheapest(15), 15);
     }
 
+    private static void servesByOneEndAlone() {
+        due.says("It SERVES a VILLAGE, if one of its CELLS: the first alone, the last alone");
+        int[] sides = {-7, -1, 1, 7};
+        for (int cell = 0; cell < 49; cell++) {
+            Run x = new Run();
+            for (int side : sides) {
+                // The village lies straight on from the other end, two away from that.
+                if (isNext(cell, cell - side) && isNext(cell, cell + side)) {
+                    x.villages((cell - side) / 7 + "" + (cell - side) % 7 + ":1");
+                    x.ends(cell, cell + side);
+                    due.is(x.cheapest(1), 2);
+                    x.ends(cell + side, cell);
+                    due.is(x.cheapest(1), 2);
+                    x.ends(cell + side, cell + side);
+                    due.is(x.cheapest(1), 3);
+                }
+            }
+        }
+    }
+
+    private static boolean isNext(int cell, int other) {
+        return other >= 0 && other < 49 && Math.abs(cell / 7 - other / 7) + Math.abs(cell % 7 - other % 7) == 1;
+    }
+
     private static void leastCost() {
         due.says("CHEAPEST for a set of VILLAGES: the least COST of a ROAD that SERVES all of them");
         Run x = new Run().flat(9);
@@ -235,6 +262,35 @@ public final class VillagesTest {
         due.is(z.cheapest(63), 21 * 46);
         due.is(z.lay(63), 21);
         due.is(z.road(0), 21 * 46);
+    }
+
+    private static void leastCostByALongWay() {
+        due.says("CHEAPEST for a set of VILLAGES: the least COST of a ROAD: far around");
+        // The way winds through channels under water: 25 cells to the end, 5 more and back to the last corner.
+        Run x = new Run();
+        x.delta("9999999/0cs0cs0cs0cs0cs0cs9/9999999/90cs0cs0cs0cs0cs0cs/9999999/0cs0cs0cs0cs0cs0cs9/9999999");
+        x.level(18);
+        due.is(x.cheapest(0), 25);
+        due.is(x.lay(0), 25);
+        x.villages("60:1,06:1");
+        due.is(x.cheapest(3), 35);
+        x.ends(48, 0);
+        due.is(x.cheapest(3), 35);
+        due.is(x.lay(3), 35);
+        x.ends(24, 24);
+        due.is(x.cheapest(0), 24);
+        // Each channel dearer than the next, so that what is cheapest changes often while it is sought.
+        Run y = new Run();
+        for (int cell = 0; cell < 49; cell++) {
+            boolean way = cell / 7 % 2 == 0 || cell == 13 || cell == 21 || cell == 41;
+            y.make(cell, 0, way ? 20 : cell % 7);
+            y.make(cell, 2, way ? 0 : 3);
+            y.make(cell, 4, way ? 0 : 1);
+        }
+        y.level(20);
+        due.is(y.cheapest(0), 25);
+        y.ends(48, 0);
+        due.is(y.cheapest(0), 25);
     }
 
     private static void setsThatAreNone() {
@@ -499,9 +555,8 @@ public final class VillagesTest {
         }
     }
 
-    private static void layFull() {
-        due.says("lay: FULL: more than 60");
-        // A way of 31 dry cells that winds through channels under much water.
+    /** A way of 31 dry cells that winds through channels under much water. */
+    private static Run maze() {
         String[] walls = {"##.....", ".#.###.", ".#....#", ".####..", ".#...#.", ".#.#.#.", "...#..."};
         Run x = new Run();
         for (int cell = 0; cell < 49; cell++) {
@@ -512,6 +567,30 @@ public final class VillagesTest {
         }
         x.villages("15:1,44:1,66:1,00:1,10:1,06:1");
         x.level(29);
+        return x;
+    }
+
+    private static void layFullAtOnce() {
+        due.says("lay: FULL: more than 60: the first thing asked for");
+        Run x = maze();
+        x.ends(13, 13);
+        due.is(x.lay(63), FULL);
+        due.is(x.count(1), 0);
+        x.ends(13, 6);
+        due.is(x.lay(63), 60);
+        x.ends(13, 13);
+        due.is(x.lay(63), FULL);
+        due.is(x.count(1), 60);
+        x.villages("15:1,44:1,66:1");
+        due.is(x.lay(0), 1);
+        Run y = maze();
+        y.ends(13, 6);
+        due.is(y.lay(63), 60);
+    }
+
+    private static void layFull() {
+        due.says("lay: FULL: more than 60");
+        Run x = maze();
         x.steps(24, 25);
         due.is(x.ends(13, 6), 48);
         due.is(x.lay(63), 60);
